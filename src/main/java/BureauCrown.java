@@ -170,7 +170,7 @@ public final class BureauCrown {
             case 0: return bureau.subject[p];
             case 1: return bureau.size[p];
             case 2: return bureau.where[p];
-            case 3: return bureau.read[p] ? 1 : 0;
+            case 3: return bureau.read[p];
             case 4: return bureau.age[p];
             default: return NONE;
         }
@@ -484,7 +484,8 @@ public final class BureauCrown {
         final int[] subject = new int[PAPERS];
         final int[] size = new int[PAPERS];
         final int[] where = new int[PAPERS];
-        final boolean[] read = new boolean[PAPERS];
+        /** 1 if it is READ, else 0. */
+        final int[] read = new int[PAPERS];
         final int[] age = new int[PAPERS];
         int papers = 0;
         int day = 0;
@@ -548,7 +549,7 @@ public final class BureauCrown {
             subject[papers] = itsSubject;
             size[papers] = itsSize;
             where[papers] = OUT;
-            read[papers] = false;
+            read[papers] = 0;
             age[papers] = 0;
             papers++;
         }
@@ -558,7 +559,7 @@ public final class BureauCrown {
                 return;
             }
             lift(p);
-            read[p] = false;
+            read[p] = 0;
             age[p] = 0;
         }
 
@@ -625,7 +626,7 @@ public final class BureauCrown {
         int bitsRead() {
             int bits = 0;
             for (int p = 0; p < papers; p++) {
-                bits |= hasPaper(p) && read[p] ? 1 << p : 0;
+                bits |= hasPaper(p) && read[p] != 0 ? 1 << p : 0;
             }
             return bits;
         }
@@ -879,7 +880,7 @@ public final class BureauCrown {
             facts[4] = drawer ? b.room[d] - b.full[d] : 0;
             facts[5] = drawer ? b.held[d] : 0;
             facts[6] = paper ? b.age[p] : 0;
-            facts[7] = paper && b.read[p] ? 1 : 0;
+            facts[7] = paper ? b.read[p] : 0;
             facts[8] = b.day % 100;
             facts[9] = draw;
         }
@@ -1178,8 +1179,8 @@ public final class BureauCrown {
                     int draw = b.draw();
                     // A draw is 0 to 9, so the bounds of r (0 to 10) need no care of their own.
                     boolean readNow = draw < law.valueOf('r', b, p, b.where[p], draw);
-                    if (readNow && !b.read[p]) {
-                        b.read[p] = true;
+                    if (readNow && b.read[p] == 0) {
+                        b.read[p] = 1;
                         newlyRead++;
                     }
                     b.age[p] = Math.min(Bureau.LAST_DAY, b.age[p] + 1);
