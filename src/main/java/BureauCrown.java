@@ -1258,7 +1258,7 @@ public final class BureauCrown {
 
         private void repeat(int from, int times, int first) {
             int round = length - from;
-            for (int k = 0; k < round * (times - 1) && !scan.failed(); k++) {
+            for (int k = 0; k < round * (times - 1) && from + k < length && !scan.failed(); k++) {
                 add(letters[from + k], first);
             }
         }
