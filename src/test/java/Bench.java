@@ -2,12 +2,30 @@
 final class Bench {
   private int wrong = 0;
   private int asked = 0;
+  private String heading = "";
+
+  /** What is printed ahead of each wrong answer from here on. */
+  void under(String heading) {
+    this.heading = heading;
+  }
+
+  int asked() {
+    return asked;
+  }
 
   void due(String call, long got, long want) {
     asked++;
     if (got != want) {
       wrong++;
-      System.out.println(call + " answered " + got + ", due is " + want);
+      System.out.println(heading + call + " answered " + got + ", due is " + want);
+    }
+  }
+
+  void due(String call, String got, String want) {
+    asked++;
+    if (!got.equals(want)) {
+      wrong++;
+      System.out.println(heading + call + " answered " + got + ", due is " + want);
     }
   }
 
@@ -21,6 +39,67 @@ final class Bench {
     if (wrong != 0) {
       System.exit(1);
     }
+  }
+
+  /** A new object with a cabinet and perhaps a law, which must be faultless. */
+  static BureauCrown with(String cabinet, String... laws) {
+    BureauCrown x = new BureauCrown();
+    if (cabinet(x, cabinet) <= 0) {
+      throw new IllegalStateException("a faulty cabinet: " + cabinet);
+    }
+    for (String law : laws) {
+      rule(x, law);
+    }
+    return x;
+  }
+
+  /** A law that must be faultless. */
+  static void rule(BureauCrown x, String law) {
+    if (law(x, law) <= 0) {
+      throw new IllegalStateException("a faulty law: " + law);
+    }
+  }
+
+  /** A new object with these bytes on its tape. */
+  static BureauCrown fed(int... bytes) {
+    BureauCrown x = new BureauCrown();
+    feedBytes(x, bytes);
+    return x;
+  }
+
+  /** A new object with this text on its tape. */
+  static BureauCrown fed(String text) {
+    BureauCrown x = new BureauCrown();
+    feedText(x, text);
+    return x;
+  }
+
+  /** All that can be seen of the drawers, the papers, THE DAY and X without a change. */
+  static String look(BureauCrown x) {
+    StringBuilder all = new StringBuilder();
+    for (int what = 0; what < 10; what++) {
+      all.append(what == 6 ? 0 : x.count(what)).append(' ');
+    }
+    for (int d = 0; d < 12; d++) {
+      if ((x.count(1) >> d & 1) != 0) {
+        all.append(d).append(':').append(x.drawerIs(d, 0)).append(',').append(x.drawerIs(d, 1)).append(' ');
+      }
+    }
+    for (int p = 0; p < x.count(2); p++) {
+      for (int what = 0; what < 5; what++) {
+        all.append(x.paperIs(p, what)).append(what < 4 ? ',' : ' ');
+      }
+    }
+    return all.toString();
+  }
+
+  /** The X behind so many draws. */
+  static int drawn(int x, int draws) {
+    long now = x;
+    for (int k = 0; k < draws; k++) {
+      now = (25173 * now + 13849) % 65536;
+    }
+    return (int) now;
   }
 
   /** Feeds the text, with blanks behind it up to the next twenty. */
