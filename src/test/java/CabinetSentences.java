@@ -448,6 +448,7 @@ final class CabinetSentences {
     BureauCrown x = Bench.with("a9;b9;A1>a;B2;C3", "e1(1=1);r10(1=1)");
     x.days(3);
     bench.due("READ ahead of it", x.count(4), 7);
+    x.seed(4711);
     bench.due("another", Bench.cabinet(x, "b8;c7;D2>c;E4"), 4);
     bench.due("told DRAWERS", x.count(1), 6);
     bench.due("ROOM", x.drawerIs(1, 0), 8);
@@ -460,6 +461,7 @@ final class CabinetSentences {
     bench.due("DAYS of one OUT", x.paperIs(1, 4), 0);
     bench.due("SUBJECT", x.paperIs(0, 0), 3);
     bench.due("THE DAY is not of it", x.count(0), 3);
+    bench.due("X is not of it", x.count(7), 4711);
     bench.due("THE LAW is not of it", x.count(5), 2);
     x.days(1);
     bench.due("days go on in it", x.count(4), 3);
